@@ -8,6 +8,7 @@ public final class DuelsTest {
         linesAndFouls();
         pass();
         sorry();
+        sorryOfTheOtherOne();
         undo();
         undoneIsAsItWas();
         longestDuel();
@@ -154,6 +155,22 @@ public final class DuelsTest {
         due.is("a draw", x.pass(), 3);
         due.is("sorry(), over", x.sorry(), Due.NOT);
         due.is("WORDS stay", x.duellist(0, 10), 9);
+    }
+
+    private static void sorryOfTheOtherOne() {
+        PraiseDuels x = Due.meadow("d99 4 9 9 9 9;d99 3 9 9 9 9;c0 2 1 8 8;c1 9 7 0 8;c2 9 1 0 8;c3 9 1 0 8;");
+        x.duel(0, 1);
+        x.say(0);
+        x.say(1);
+        x.pass();
+        x.say(2);
+        x.pass();
+        due.is("sorry() of the other one", x.sorry(), 1);
+        due.is("FOULS", x.duellist(1, 9), 1);
+        due.is("BLUSH", x.duellist(1, 8), 9);
+        x.pass();
+        due.is("sorry() of the other one again", x.sorry(), 0);
+        due.is("BLUSH", x.duellist(1, 8), 6);
     }
 
     private static void undo() {

@@ -6,6 +6,7 @@ public final class ImagesTest {
         seed();
         refused();
         keepsAll();
+        keepsScores();
         keepsTurns();
         keepsNothingElse();
         due.end("ImagesTest");
@@ -82,6 +83,25 @@ public final class ImagesTest {
         due.is("goBack(1), kept anew", x.goBack(1), 1);
         due.tells("image 1 anew", x, 3, 6, 0, 1, 2, 3, 2);
         due.is("league by the images", x.league(1), 7);
+    }
+
+    private static void keepsScores() {
+        PraiseDuels x = Due.meadow("d1 0 9 9 9 9;d1 0 9 9 9 9;c0 9 1 8 8;");
+        x.duel(0, 1);
+        x.say(0);
+        x.keep(0);
+        x.undo(1);
+        x.pass();
+        x.say(0);
+        due.is("the other one has won", x.league(1), 2);
+        x.keep(1);
+        x.goBack(0);
+        due.is("the first one has won", x.league(1), 1);
+        x.duel(1, 0);
+        x.say(0);
+        due.is("one each", x.league(2), 3);
+        x.goBack(1);
+        due.is("the other one has won", x.league(1), 2);
     }
 
     private static void keepsTurns() {

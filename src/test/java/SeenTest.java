@@ -39,6 +39,13 @@ public final class SeenTest {
         due.is("warm(0, 0, 10, 0), full", x.warm(0, 0, 10, 0), Due.OUTSIDE);
         due.is("warm(6, 0, 0, 0), full", x.warm(6, 0, 0, 0), Due.UNKNOWN);
         due.is("told(9)", x.told(9), 12);
+        x = three();
+        for (int i = 0; i < 11; i++) {
+            x.warm(5, 1, i % 10, 0);
+        }
+        x.warm(0, 0, 0, 20);
+        due.is("by the twelfth", x.vain(0, 0), 16);
+        due.is("0 by the first", x.vain(1, 0), 1);
     }
 
     /** The SET of who is WARMED once, alone. */
@@ -115,6 +122,15 @@ public final class SeenTest {
         due.is("none parts 4 and 5", y.probe(0, 1), Due.NONE);
         y.act(0, 1);
         due.is("it is TRUE now: 2 alone", y.vain(0, 1), 4);
+        PraiseDuels z = Due.meadow("d9 0 1 1 1 1;c0 1 1 8 8;c0 2 1 8 8;c1 2 1 0 1;c2 1 1 0 8;c2 1 1 0 1;e0 1;");
+        due.is("first told, all parted by each", z.probe(0, 0), 0);
+        due.is("a FALSE one parts none", z.probe(0, 2), 4);
+        z.warm(2, 0, 2, 1);
+        due.is("4 to 7", z.vain(0, 1), 240);
+        due.is("4 to 7 parted", z.probe(0, 1), 2);
+        z.warm(2, 0, 1, 3);
+        due.is("6 and 7", z.vain(0, 1), 192);
+        due.is("two parted", z.probe(0, 1), 2);
     }
 
     private static void cheek() {
@@ -181,10 +197,17 @@ public final class SeenTest {
         rows("c3 was said", x, 0, 0);
         x.tear();
         x.cheek(20);
+        due.is("surely() ahead of said()", x.surely(), 1);
         rows("on the other one now", x, 1, 1, 0);
         x.cheek(29);
         rows("17 and 12", x, 1, 3, 0, 1);
         due.is("nothing changes", x.told(6), 1);
+        x.duel(2, 1);
+        x.pass();
+        x.tear();
+        x.cheek(40);
+        due.is("surely() on 2", x.surely(), 16);
+        rows("on 2", x, 1, 16, 4);
     }
 
     private static void saidByCooling() {

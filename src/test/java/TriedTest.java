@@ -6,6 +6,7 @@ public final class TriedTest {
     public static void main(String[] args) {
         bestRefused();
         best();
+        bestNotFirst();
         bestByPassing();
         greatest();
         harden();
@@ -72,6 +73,21 @@ public final class TriedTest {
         bestIs("it says it, so the other one can't", z, 1, 0);
     }
 
+    private static void bestNotFirst() {
+        PraiseDuels x = Due.meadow("d999 0 0 0 0 0;d10 0 5 0 0 0;c1 1 1 8 8;c0 2 1 8 8;c1 1 1 8 8;");
+        x.duel(0, 1);
+        bestIs("a draw by the first, won by the second", x, 2, 1);
+        x.duel(1, 0);
+        bestIs("lost by the first, a draw by the second", x, 1, 1);
+        PraiseDuels y = Due.meadow("d999 0 0 0 0 0;d10 0 5 0 0 0;c1 1 1 8 8;c1 1 1 8 8;c0 2 1 8 8;c1 1 1 8 8;");
+        y.duel(1, 0);
+        bestIs("the other one would say c2 behind any other turn", y, 1, 2);
+        y.say(2);
+        bestIs("a draw by all: the first one", y, 1, 0);
+        y.say(0);
+        bestIs("a draw by all: the first one that is unsaid", y, 1, 1);
+    }
+
     private static void bestByPassing() {
         PraiseDuels x = Due.meadow("d99 0 1 1 1 1;d99 0 1 1 1 1;c0 1 1 0 8;c0 1 1 0 8;c0 1 1 0 8;");
         x.duel(0, 1);
@@ -119,6 +135,12 @@ public final class TriedTest {
         x.pass();
         x.pass();
         due.is("greatest(0), over", x.greatest(0), Due.NOT);
+        x.duel(2, 1);
+        x.pass();
+        due.is("on 2", x.greatest(1), 45);
+        x.vanity(2, 2, 9);
+        x.vanity(2, 0, 1);
+        due.is("on 2", x.greatest(0), 4);
     }
 
     private static void harden() {
@@ -170,6 +192,10 @@ public final class TriedTest {
         due.is("the one that is left of two", y.deeds(0, 1, 1), 8);
         due.is("all", y.deeds(0, 4, 1), 251);
         due.is("all", y.deeds(0, 4, 0), 7);
+        PraiseDuels z = Due.meadow("d9 0 1 1 1 1;c0 1 1 7 6;c0 1 1 5 4;c0 1 1 0 1;c0 1 1 3 2;");
+        due.is("all 8", z.deeds(0, 4, 1), 255);
+        due.is("all 8", z.deeds(0, 4, 0), 8);
+        due.is("the least of like ones", z.deeds(0, 2, 1), 15);
     }
 
     private static void won(PraiseDuels x, int a, int b) {
@@ -252,10 +278,36 @@ public final class TriedTest {
         won(x, 2, 1);
         won(x, 2, 3);
         leagueIs("2 has 6", x, 4, 15);
+        leagueOfFourByOthers();
         won(x, 2, 0);
         won(x, 2, 1);
         won(x, 2, 3);
         leagueIs("2 has 12", x, 4, 4);
+    }
+
+    private static void leagueOfFourByOthers() {
+        PraiseDuels x = Due.meadow(QUICK);
+        won(x, 3, 2);
+        won(x, 0, 3);
+        won(x, 1, 3);
+        leagueIs("0 or 1 must have 3, 3 has 2", x, 7, 15);
+        x = Due.meadow(QUICK);
+        won(x, 3, 0);
+        won(x, 0, 3);
+        won(x, 3, 1);
+        won(x, 1, 3);
+        drawn(x, 3, 2);
+        won(x, 2, 3);
+        leagueIs("3 has 5, the others 19 in the end", x, 12, 7);
+        x = Due.meadow(QUICK);
+        won(x, 2, 0);
+        won(x, 0, 1);
+        won(x, 0, 1);
+        won(x, 0, 1);
+        leagueIs("a third meeting counts for nobody", x, 15, 15);
+        won(x, 3, 0);
+        won(x, 3, 1);
+        leagueIs("0 has 2, 2 has 2, 3 has 4", x, 12, 15);
     }
 
     private static void met() {
