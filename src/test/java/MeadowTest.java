@@ -229,6 +229,9 @@ public final class MeadowTest {
         Due.feedAll(x, ONE);
         due.is("meadow() behind one with a FAULT", x.meadow(), 1);
         due.is("fault() behind one without", x.fault(), Due.NONE);
+        Due.feedAll(x, "d1 0 0 0 0 0");
+        due.is("an earlier text's ';' does not end this one", x.meadow(), -11);
+        due.is("fault() at the end", x.fault(), 12);
     }
 
     private static void meadowBeginsAnew() {

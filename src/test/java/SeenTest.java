@@ -131,6 +131,11 @@ public final class SeenTest {
         z.warm(2, 0, 1, 3);
         due.is("6 and 7", z.vain(0, 1), 192);
         due.is("two parted", z.probe(0, 1), 2);
+        PraiseDuels most = Due.meadow("d9 0 1 1 1 1;c0 9 1 8 8;");
+        due.is("by 0 to 81", most.probe(0, 0), 0);
+        most.warm(0, 0, 0, 81);
+        due.is("9 alone", most.vain(0, 0), 512);
+        due.is("9 alone is not parted", most.probe(0, 0), Due.NONE);
     }
 
     private static void cheek() {
