@@ -332,6 +332,14 @@ final class EdgesOfDuels {
         x.say(2);
         edges.is("of one", x.sorry(), 0);
         edges.is("of one of the other one", x.sorry(), 0);
+        PraiseDuels y = Due.meadow(FALSE_ONES);
+        y.duel(0, 1);
+        y.say(7);
+        y.say(0);
+        y.pass();
+        y.say(1);
+        y.pass();
+        edges.is("of two of the other one", y.sorry(), 1);
         edges.sentence(13, "Or APOLOGIZES, if one has FOULS: one FOUL less");
         edges.is("FOULS of the first one", x.duellist(0, 9), 0);
         edges.is("FOULS of the other one", x.duellist(1, 9), 0);

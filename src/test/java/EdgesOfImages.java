@@ -118,6 +118,9 @@ final class EdgesOfImages {
         x.pass();
         x.say(0);
         edges.is("the other one has won", x.league(1), 2);
+        x.duel(0, 1);
+        x.say(0);
+        edges.is("twice", x.met(0, 1), 2);
         x.goBack(1);
         edges.is("the first one has won", x.league(1), 1);
         edges.is("points", x.duellist(0, 7), 2);

@@ -156,6 +156,12 @@ final class EdgesOfNotes {
         edges.sentence(28, "of like ones the least;");
         PraiseDuels y = Due.meadow("d9 0 0 0 0 0;c1 9 1 8 8;c0 1 1 8 8;c0 9 1 8 8;");
         edges.is("ten parts of one by each", y.probe(0, 0), 1);
+        y.warm(2, 0, 0, 81);
+        edges.is("9 alone, 9 times", y.probe(0, 0), Due.NONE);
+        PraiseDuels z = Due.meadow("d9 0 0 0 0 0;c0 1 1 0 1;c0 7 1 8 8;c0 1 1 8 8;e0 0;");
+        z.warm(1, 0, 4, 1);
+        edges.is("3 and 4", z.vain(0, 0), 24);
+        edges.is("parted by the half, too: 1 and 2", z.probe(0, 0), 0);
         edges.sentence(28, "NONE: none parts them.");
         edges.is("FALSE ones alone", x.probe(0, 2), Due.NONE);
         edges.is("no COMPLIMENT of the TOPIC", x.probe(0, 3), Due.NONE);
@@ -257,6 +263,9 @@ final class EdgesOfNotes {
         rows("an undone one", cheeks(x, 3), 1, 2, 1);
         edges.sentence(30, "Without CHEEKS: one row, an empty one.");
         rows("none", cheeks(x), 1, 0);
+        x.duel(1, 0);
+        x.pass();
+        rows("the other one of whose turn it is is the first one", cheeks(x, 3), 1, 2, 1);
         PraiseDuels none = Due.meadow("d1 0 0 0 0 0;".repeat(2));
         none.duel(0, 1);
         rows("none, there are no COMPLIMENTS", none, 1, 0);

@@ -22,6 +22,7 @@ final class EdgesOfTries {
         leagueBounds();
         leagueOfFirstMeetings();
         leagueOfThoseLeft();
+        leagueOfOthers();
         met();
         shared();
         sharedUnknown();
@@ -72,6 +73,13 @@ final class EdgesOfTries {
         bestIs("behind a PASS", x, 1, 8);
         x.duel(0, 1);
         bestIs("it loses by each: the first one", x, 0, 0);
+        PraiseDuels y = Due.meadow("d999 0 0 0 0 0;d10 0 5 0 0 0;c1 1 1 8 8;c0 2 1 8 8;c1 1 1 8 8;");
+        y.duel(0, 1);
+        bestIs("a draw by the first, won by the second", y, 2, 1);
+        y.duel(1, 0);
+        bestIs("lost by the first, a draw by the second", y, 1, 1);
+        y.say(1);
+        bestIs("a draw by all that is unsaid: the first one", y, 1, 0);
         PraiseDuels none = Due.meadow("d9 0 1 1 1 1;d9 0 1 1 1 1;");
         none.duel(1, 0);
         bestIs("there are no COMPLIMENTS", none, 1, 8);
@@ -149,6 +157,10 @@ final class EdgesOfTries {
         x.say(1);
         edges.is("all are said: which", x.greatest(0), Due.NONE);
         edges.is("all are said: EFFECT", x.greatest(1), Due.NONE);
+        x.duel(1, 0);
+        edges.is("on the other one, 0", x.greatest(1), 81);
+        x.pass();
+        edges.is("on the first one, 1", x.greatest(1), 45);
         PraiseDuels none = Due.meadow(QUICK.repeat(2));
         none.duel(0, 1);
         edges.is("there are none: which", none.greatest(0), Due.NONE);
@@ -346,6 +358,18 @@ final class EdgesOfTries {
         won(y, 1, 0);
         y.undo(1);
         edges.is("a later one undone", y.league(2), 1);
+        PraiseDuels z = Due.meadow(QUICK.repeat(3) + SPEECH);
+        won(z, 0, 1);
+        won(z, 1, 0);
+        edges.is("a second one, the third DUELLIST has none", z.league(1), 7);
+        PraiseDuels v = Due.meadow(QUICK.repeat(3) + SPEECH);
+        won(v, 2, 0);
+        won(v, 0, 1);
+        won(v, 0, 1);
+        won(v, 0, 1);
+        edges.is("a third one does not count for others: 2 and 0 have 2, 1 may have 2", v.league(1), 7);
+        won(v, 2, 1);
+        edges.is("2 has 4", v.league(1), 4);
     }
 
     private void leagueOfThoseLeft() {
@@ -372,6 +396,29 @@ final class EdgesOfTries {
         won(z, 1, 2);
         won(z, 2, 0);
         edges.is("as many as each other one", z.league(1), 7);
+    }
+
+    /** Who has ended but for the others: what these have left must fall somewhere. */
+    private void leagueOfOthers() {
+        edges.sentence(22, "those that are left may end in each way:");
+        PraiseDuels x = Due.meadow(QUICK.repeat(3) + SPEECH);
+        drawn(x, 2, 0);
+        won(x, 0, 2);
+        won(x, 2, 1);
+        won(x, 1, 2);
+        edges.is("2 has 3, 0 has 3, 1 has 2, and 4 more", x.league(2), 3);
+        PraiseDuels y = Due.meadow(QUICK.repeat(4) + SPEECH);
+        won(y, 3, 0);
+        won(y, 0, 3);
+        won(y, 3, 1);
+        won(y, 1, 3);
+        drawn(y, 3, 2);
+        won(y, 2, 3);
+        edges.is("3 has 5, the others 7 and 12 more", y.league(2), 7);
+        y.undo(1);
+        y.pass();
+        won(y, 3, 2);
+        edges.is("3 has 7, the others 5 and 12 more", y.league(2), 15);
     }
 
     private void met() {
@@ -454,10 +501,19 @@ final class EdgesOfTries {
         edges.is("3 and 3", x.powder(), 2);
         x.say(3);
         edges.is("3 and 4", x.powder(), 1);
+        x.duel(0, 1);
+        x.say(1);
+        x.say(0);
+        edges.is("3 and 2", x.powder(), 0);
+        x.pass();
+        x.say(2);
+        edges.is("3 and 3", x.powder(), 2);
+        x.say(3);
+        edges.is("4 and 3", x.powder(), 0);
         x.pass();
         x.pass();
         edges.sentence(25, "POWDER.");
-        edges.is("over", x.powder(), 1);
+        edges.is("over", x.powder(), 0);
         x.duel(1, 0);
         edges.is("a new DUEL", x.powder(), 2);
         edges.sentence(25, "NOT: no DUEL.");

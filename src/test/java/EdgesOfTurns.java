@@ -212,6 +212,12 @@ final class EdgesOfTurns {
         edges.is("15929 by 7", turnFrom(2147483647, 6, 0), 4);
         edges.is("15929 by 8", turnFrom(2147483647, 7, 0), 1);
         edges.is("0 by 9", turnFrom(0, 8, 0), 0);
+        // 286434947 becomes 2147418112, 576240414 one less, 230538014 becomes 2147483647
+        edges.is("32767 and nothing more, by 2", turnFrom(286434947, 1, 0), 8);
+        edges.is("one less, cut to 32766, by 2", turnFrom(576240414, 1, 0), 0);
+        edges.is("32767, the greatest, by 9", turnFrom(230538014, 8, 0), 7);
+        edges.is("65535, cut to 0, by 2", turnFrom(2032319262, 1, 0), 0);
+        edges.is("65536, 1, by 2", turnFrom(1742513795, 1, 0), 8);
     }
 
     private void seedGoesRound() {
