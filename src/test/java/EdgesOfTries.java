@@ -80,6 +80,9 @@ final class EdgesOfTries {
         bestIs("lost by the first, a draw by the second", y, 1, 1);
         y.say(1);
         bestIs("a draw by all that is unsaid: the first one", y, 1, 0);
+        PraiseDuels z = Due.meadow("d999 0 0 0 0 0;d10 0 5 0 0 0;c1 1 1 8 8;c1 1 1 8 8;c0 2 1 8 8;c1 1 1 8 8;");
+        z.duel(1, 0);
+        bestIs("else the other one passes over the first that is left and says c2", z, 1, 2);
         PraiseDuels none = Due.meadow("d9 0 1 1 1 1;d9 0 1 1 1 1;");
         none.duel(1, 0);
         bestIs("there are no COMPLIMENTS", none, 1, 8);
