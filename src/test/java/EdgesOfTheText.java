@@ -23,6 +23,7 @@ final class EdgesOfTheText {
         doneAgain();
         withoutClauses();
         emptyThen();
+        behindALargerOne();
         answersOfMeadow();
         placeOfTheFault();
     }
@@ -332,6 +333,39 @@ final class EdgesOfTheText {
         Due.feedAll(x, "d1 0 0");
         edges.is("nothing of the longer text is left behind it", x.meadow(), -11);
         edges.is("at the end", x.fault(), 6);
+    }
+
+    /** Two DUELLISTS, one COMPLIMENT behind four, eight: nothing of the others counts anywhere. */
+    private void behindALargerOne() {
+        edges.sentence(3, "becomes THE MEADOW");
+        PraiseDuels x = fed("d99 0 9 9 9 9;".repeat(4) + "c0 9 9 8 8;c1 9 9 8 8;".repeat(4) + "e0 0;");
+        edges.is("meadow() of the larger one", x.meadow(), 4);
+        Due.feedAll(x, "d50 0 5 5 5 5;".repeat(2) + "c0 2 1 8 8;");
+        edges.is("meadow() of the smaller one", x.meadow(), 2);
+        edges.is("DEEDS", x.duellist(0, 6), 0);
+        edges.is("harden", x.harden(0, 11, 1, Due.NONE), 0);
+        edges.is("harden of TOPIC 0", x.harden(0, 11, 1, 0), 0);
+        edges.is("harden of TOPIC 1", x.harden(0, 11, 1, 1), 0);
+        edges.is("harden by the one that is there", x.harden(0, 10, 1, Due.NONE), 1);
+        edges.is("deeds for 1", x.deeds(0, 1, 0), 0);
+        edges.is("deeds for 2", x.deeds(0, 2, 0), Due.NONE);
+        edges.is("probe of TOPIC 0", x.probe(0, 0), 0);
+        edges.is("probe of TOPIC 1", x.probe(0, 1), Due.NONE);
+        edges.is("shared by two", x.shared(0, 3), 10);
+        edges.is("shared by a third", x.shared(0, 7), Due.UNKNOWN);
+        edges.is("league(2)", x.league(2), 3);
+        edges.is("duel(0, 2)", x.duel(0, 2), Due.UNKNOWN);
+        edges.is("duel(0, 1)", x.duel(0, 1), 0);
+        edges.is("greatest(0)", x.greatest(0), 0);
+        edges.is("best(1), one being unsaid", x.best(1), 0);
+        x.cheek(45);
+        edges.is("rows of an EFFECT of the larger one", x.said(Due.NONE), 0);
+        x.tear();
+        x.cheek(10);
+        edges.is("rows of an EFFECT that is there", x.said(Due.NONE), 1);
+        edges.is("write(1)", x.write(1), Due.UNKNOWN);
+        edges.is("drift(40)", x.drift(40), 3);
+        edges.is("nothing else was said", x.told(8) & ~1, 0);
     }
 
     private void answersOfMeadow() {
